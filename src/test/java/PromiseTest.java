@@ -72,6 +72,8 @@ public final class PromiseTest {
         due("bestMove()", x.bestMove(), NONE);
         due("result()", x.result(), NONE);
         due("nodes()", x.nodes(), 0);
+        due("cuts()", x.cuts(), 0);
+        due("hits()", x.hits(), 0);
         due("entries()", x.entries(), 0);
         due("hitShare()", x.hitShare(), 0.0);
         due("setOrder(0)", x.setOrder(0), 0);
@@ -154,6 +156,7 @@ public final class PromiseTest {
         due("coins(1)", x.coins(1), 3);
         due("playBest(1) without piles", x.playBest(1), 0);
         due("savedStates()", x.savedStates(), 4);
+        due("playBest(1) of one", row("6").playBest(1), 1);
         BoundSearch y = row(TWELVE);
         due("playBest(12) of twelve", y.playBest(12) >= 6, true);
         due("left()", y.left(), 0);
@@ -212,6 +215,7 @@ public final class PromiseTest {
         due("value() of three", row("1,1,1").value(), 1);
         BoundSearch x = row("3,9,1,2");
         due("value() of four", x.value(), 9);
+        due("value() of twelve", row("1,1,1,1,1,1,1,1,1,1,1,20").value(), 19);
         x.setLimit(1);
         due("value() has no limit", x.value(), 9);
         x.play(0);
@@ -606,6 +610,20 @@ public final class PromiseTest {
         }
         due("undo()", x.undo(), 5);
         due("savedStates() after undo()", x.savedStates(), 5);
+        for (int limit = 1; limit <= 40; limit++) {
+            x.setLimit(limit);
+        }
+        for (int left = 5; left >= 0; left--) {
+            due("undo() of many", x.undo(), left);
+            due("the limit before", limitOf(x), 34 + left);
+        }
+    }
+
+    /** Without a trace: the call that tells the limit is undone, and saves no state too many. */
+    private static int limitOf(BoundSearch x) {
+        int limit = x.setLimit(1);
+        x.undo();
+        return limit;
     }
 
     private static void digest() {
@@ -620,6 +638,8 @@ public final class PromiseTest {
             hash = 31L * (31L * hash) + NONE;
         }
         due("digest()", x.digest(), hash);
+        x.play(0);
+        x.undo();
         due("digest() again", x.digest(), hash);
         due("digest() without the limit", digestAfter(x), hash);
     }
