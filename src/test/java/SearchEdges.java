@@ -755,6 +755,17 @@ final class SearchEdges {
         }
     }
 
+    @Edge(at = "Promise 23: setOrder", says = "order: 0 to 23")
+    static void theFirstAndTheLastOrder() {
+        BoundSearch x = Edges.row("2,5,6,5,2,7");
+        x.setOrder(23);
+        x.search(12, -240, 241);
+        Edges.due("nodes() with the order 23", x.nodes(), 73);
+        x.setOrder(0);
+        x.search(12, -240, 241);
+        Edges.due("nodes() with the order 0", x.nodes(), 212);
+    }
+
     @Edge(at = "Promise 23: setOrder", says = "Returns the number of the order before.")
     static void theNumberOfTheOrderBefore() {
         BoundSearch x = new BoundSearch();

@@ -323,13 +323,20 @@ final class UndoEdges {
         Edges.refused("undo() of a new object", Edges.STATE, BoundSearch::new, BoundSearch::undo);
         Edges.refused("undo() with a text", Edges.STATE, () -> Edges.typed("1,2"),
                 BoundSearch::undo);
-        Edges.refused("undo() once too often", Edges.STATE, () -> {
-            BoundSearch x = Edges.busy();
-            for (int undone = 0; undone < 6; undone++) {
-                x.undo();
-            }
-            return x;
-        }, BoundSearch::undo);
+        Edges.refused("undo() once too often", Edges.STATE, UndoEdges::busyWithoutStates,
+                BoundSearch::undo);
+    }
+
+    /** As busy as can be, but all saved states have been discarded or brought back. */
+    private static BoundSearch busyWithoutStates() {
+        BoundSearch x = Edges.busy();
+        for (int saved = 0; saved < 6; saved++) {
+            x.setLimit(70);
+        }
+        for (int undone = 0; undone < 6; undone++) {
+            x.undo();
+        }
+        return x;
     }
 
     @Edge(at = "Promise 32: undo", says = "Restores the state that was saved last, and removes it"
